@@ -187,6 +187,7 @@ public final class PromiseTests {
     x.year();
     x.taste(1, 5);
     x.image();
+    x.eat(0);
     write(x, "j0");
     due("larder() of j0", x.larder(), JamDays.STATE);
     due("restore() after a refused larder()", x.restore(), 1);
@@ -547,6 +548,11 @@ public final class PromiseTests {
     due("tasteNext() of two alike", read("c90,c90").tasteNext(), 0);
     // worst of year 0: 3 alike; of year 1: 9, 7, 6 and 8: 1; the first such
     due("tasteNext() of four", read("c90,j93,j90,c80").tasteNext(), 1);
+    due("tasteNext() of six alike", read("c50,c50,c50,c50,c50,c50").tasteNext(), 0);
+    // two are alike in each of the years 0 to 8, none in year 9
+    due("tasteNext() of the last year", read("p93,p32,w07,g09,j30,g16").tasteNext(), 9);
+    // none are alike in year 10, which is not looked at
+    due("tasteNext() ends ahead of year 10", read("w51,p14,w92,g27,w47").tasteNext(), 0);
     // with mould 1 and 0 a year they are 3 apart, alike in year 3 and never else
     JamDays apart = read("j66,j39");
     due("tasteNext() of those apart", apart.tasteNext(), 0);
@@ -595,6 +601,14 @@ public final class PromiseTests {
     refused(x, "times(1, 0, 3)", h, x.times(1, 0, 3), JamDays.OUTSIDE);
     refused(x, "times(1, 0, -1)", h, x.times(1, 0, -1), JamDays.OUTSIDE);
     due("times(0, 0, 0) without a larder", new JamDays().times(0, 0, 0), JamDays.OUTSIDE);
+    // draws of 3 by seed 0: 0 0, 1 1, 0 1, 1 1; jar 1 is worth 5, 2 and -1 in years 1, 2 and 3
+    JamDays three = read("j90,j80,j70");
+    int[] joys = {2009, 2014, 2016, 2015};
+    for (int n = 1; n <= 4; n++) {
+      due("times(" + n + ", 0, 0) of three", three.times(n, 0, 0), 36 - 2 * n);
+      due("times(" + n + ", 0, 1) of three", three.times(n, 0, 1), joys[n - 1]);
+    }
+    due("times(4, 0, 2) of three", three.times(4, 0, 2), 1293799192);
     // one spoon in jar 0: the wasps come ahead of the one who eats
     JamDays last = read("c90,c50");
     for (int i = 0; i < 11; i++) last.wasps(0);
@@ -625,6 +639,14 @@ public final class PromiseTests {
     part = "promise 19";
     JamDays x = read("c90,g50,j33");
     due("restore() of none kept", x.restore(), JamDays.STATE);
+    x.taste(1, 9);
+    x.image();
+    x.forget();
+    x.taste(0, 3);
+    due("which() ahead of restore()", x.which(), 4);
+    x.restore();
+    due("which() after restore()", x.which(), 1);
+    x.forget();
     x.eat(0);
     x.year();
     x.eat(0);
