@@ -8,12 +8,12 @@ public final class BoundaryTests {
   private static final int MIN = Integer.MIN_VALUE, MAX = Integer.MAX_VALUE;
   private static final String SIX = "j00,w11,c22,p33,g44,j55";
   private static int wrong = 0;
-  private static int sentences = 0;
+  private static int blocks = 0;
   private static String sentence = "";
 
   private static void says(String text) {
     sentence = text;
-    sentences++;
+    blocks++;
   }
 
   private static void due(String call, long got, long want) {
@@ -103,7 +103,7 @@ public final class BoundaryTests {
     digest();
     longRun();
     RefusedCalls.all();
-    System.out.println(wrong == 0 ? "all " + sentences + " sentences hold" : wrong + " answers are not as due");
+    System.out.println(wrong == 0 ? "all " + blocks + " blocks hold" : wrong + " answers are not as due");
     if (wrong != 0) System.exit(1);
   }
 
